@@ -184,10 +184,10 @@ public final class LooseGrid {
         int depth = depthOf(path);
         int index = indexOf(path);
         switch (what) {
-            case 0: return now.inSquare(path);
+            case 0: return now.inSquare(depth, index);
             case 1: return now.wholeIn(depth, index);
             case 2: return now.isSplit(depth, index) ? 1 : 0;
-            default: return now.leastIn(path);
+            default: return now.leastIn(depth, index);
         }
     }
 
@@ -622,7 +622,7 @@ public final class LooseGrid {
         return depth;
     }
 
-    /** The place of a PATH's SQUARE among those of its DEPTH: row by row, from the least x on. */
+    /** The place of a PATH's SQUARE among those of its DEPTH: row by row of them, from the least x on. */
     private static int indexOf(int path) {
         int column = 0;
         int row = 0;
@@ -873,19 +873,27 @@ public final class LooseGrid {
             return true;
         }
 
-        int inSquare(int path) {
+        /** A SQUARE that is SPLIT leaves to its QUARTERS what lies whole in one of them. */
+        private static boolean isIn(Box one, int depth, int index, boolean isSplit) {
+            boolean isLeft = isSplit && one.wholeIndex(depth + 1) >= 0;
+            return one.isThere && one.wholeIndex(depth) == index && !isLeft;
+        }
+
+        int inSquare(int depth, int index) {
+            boolean isSplit = isSplit(depth, index);
             int many = 0;
             for (int n = 0; n < came; n++) {
-                if (box[n].isThere && pathOf(box[n]) == path) {
+                if (isIn(box[n], depth, index, isSplit)) {
                     many++;
                 }
             }
             return many;
         }
 
-        int leastIn(int path) {
+        int leastIn(int depth, int index) {
+            boolean isSplit = isSplit(depth, index);
             for (int n = 0; n < came; n++) {
-                if (box[n].isThere && pathOf(box[n]) == path) {
+                if (isIn(box[n], depth, index, isSplit)) {
                     return n;
                 }
             }

@@ -34,7 +34,7 @@ public final class PromiseTest {
         return g;
     }
 
-    /** A hard-won 10 boxes: squares to depth 5, four pairs. */
+    /** 10 boxes: squares to depth 5, four pairs. */
     private static LooseGrid town() {
         return with(0, 0, 0, 0, 4, 4, 1, 1, 2, 2, 2, 2, 2, 0, 3, 3, 1, 1, 3, 1, 0, 3, 1, 1, 0, 0, 1, 1, 2, 1,
                 1, 0, 70, 10, 8, 8, 2, 1, 77, 17, 3, 3, 0, 1, 78, 10, 2, 2, 3, 0, 100, 100, 28, 28, 0, 1, 60, 60, 8, 8);
@@ -185,6 +185,9 @@ public final class PromiseTest {
         text("b0,13,", -16);
         text("b0,127,127", -20);
         text("b0,127,130", -19);
+        text("b0,127,128:1x1", -19);
+        text("b0,128,0:1x1", -15);
+        text("b0,1000,0:1x1", -16);
         text("b0,0,0;", -16);
         text("b0,0,0:", -17);
         text("b0,0,0:x", -17);
@@ -208,6 +211,18 @@ public final class PromiseTest {
         text("b0,0,0:1x1>+", -22);
         text("b0,0,0:1x1>+1", -23);
         text("b0,0,0:1x1>+12", -23);
+        text("b0,0,0:1x1>+05-1", -23);
+        text("b0,0,0:1x1>+5-01", -25);
+        text("b0,0,0:1x1>5-1", -21);
+        text("bb,0,0:1x1", -11);
+        text("b0;0,0:1x1", -12);
+        text(" b0,0,0:1x1", -10);
+        text("b0,,0:1x1", -13);
+        text("b0,-1,0:1x1", -13);
+        text("b0,0,0,1x1", -16);
+        text("b0,0,0:1X1", -18);
+        text("b0,0,0:1x1>++1", -22);
+        text("b0,0,0:1x1>+1-2>+1-2", -25);
         text("b0,0,0:1x1>+1-", -24);
         text("b0,0,0:1x1>+1-2>", -25);
         text("b0,0,0:1x1>+1-2;m", -27);
@@ -231,6 +246,11 @@ public final class PromiseTest {
         for (int b = 0; b < due.length; b++) {
             for (int what = 0; what < 12; what++) due("of " + b + " " + what, g.of(b, what), due[b][what]);
         }
+        int[][] edges = {{15, 15, 2, 2, 4}, {0, 0, 16, 16, 1}, {16, 0, 16, 17, 2}, {1, 0, 32, 1, 3}, {96, 96, 32, 32, 4}};
+        for (int[] row : edges) {
+            due("cells", g.of(g.box(0, 0, row[0], row[1], row[2], row[3]), 10), row[4]);
+        }
+        g = town();
         due("what 12", g.of(0, 12), -1);
         due("what -1", g.of(0, -1), -1);
         due("no such", g.of(10, 0), -1);
@@ -651,9 +671,9 @@ public final class PromiseTest {
         g.speed(0, 1, 2);
         g.pass(3);
         g.room(5);
-        g.see(0, 1, 9);
-        g.plan(0, 0);
-        g.book(0, 0);
+        for (int n = 1; n <= 5; n++) g.see(0, 2 * n, 8 + 2 * n);
+        for (int n = 0; n < 10; n++) g.plan(n == 9 ? 1 : 3, n == 9 ? 1 : 0);
+        for (int n = 0; n < 8; n++) g.book(n % 2, 0);
         g.image();
         g.feed('b');
         g.tape(0, 0, 2);
@@ -662,25 +682,29 @@ public final class PromiseTest {
         g.drop(1);
         g.box(0, 0, 0, 0, 1, 1);
         g.room(1);
-        g.see(-1, 0, 0);
-        g.see(0, 1, 4);
-        g.plan(-1, 0);
-        g.plan(1, 0);
-        g.plan(1, 0);
-        g.book(-1, 0);
-        g.book(0, 44);
-        g.book(0, 44);
         for (int round = 0; round < 2; round++) {
+            g.see(-1, 0, 0);
+            for (int n = 0; n < 5; n++) g.see(0, 1, 4);
+            g.plan(-1, 0);
+            for (int n = 0; n < 9; n++) g.plan(1, 0);
+            g.book(-1, 0);
+            for (int n = 0; n < 8; n++) g.book(0, 44);
             due("undo", g.undo(), 2);
-            int[] counts = {2, 2, 1, 1, 1, 1};
+            int[] counts = {2, 2, 5, 10, 8, 1};
             for (int what = 0; what < 6; what++) due("count " + what, g.count(what), counts[what]);
             int[] of = {1, 0, 8, 12, 1, 1, 51, 52};
             for (int what = 0; what < 8; what++) due("of " + what, g.of(0, what), of[what]);
             due("time", g.told(0), 3);
             due("room", g.told(5), 5);
             due("seen", g.speeds(0, 1), 1);
-            due("plan", g.ends(0), 0);
-            due("book", g.looked(), -5);
+            due("seen, all rows", g.speeds(0, 0), 1);
+            due("book, all rows", g.looked(), -5);
+            g.move(0, 0, 0);
+            g.box(0, 0, 0, 0, 1, 1);
+            g.box(0, 0, 2, 0, 1, 1);
+            due("plan", g.ends(0), 1);
+            due("its squares", g.ends(1), 1);
+            due("undo", g.undo(), 2);
             due("tapes stay", g.read(0, 1), 0);
             due("the next number", g.box(0, 0, 9, 9, 1, 1), 2);
         }
