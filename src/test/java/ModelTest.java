@@ -1,11 +1,15 @@
 /** Long runs of calls, drawn from a fixed row of numbers, told to LooseGrid and to PlainGrid alike. */
 public final class ModelTest {
-    private static final int RUNS = 600;
-    private static final int CALLS = 512;
+    private static final int RUNS = 1000;
+    /** The document promises nothing of an object behind its 512th call. */
+    private static final int MOST_CALLS = 512;
+    private static final int MOST_OF_A_TURN = 103;
+    private static final int MOST_OF_A_SWEEP = 123;
     private static final int MOST_TOLD = 20;
     private static int wrong = 0;
 
     private long seed;
+    private int calls = 0;
     private final LooseGrid grid = new LooseGrid();
     private final PlainGrid model = new PlainGrid();
     private final StringBuilder clause = new StringBuilder();
@@ -51,7 +55,9 @@ public final class ModelTest {
         return path;
     }
 
+    /** Each call of the grid goes through here, so that they are counted. */
     private boolean due(String call, long got, long want) {
+        calls++;
         if (got == want) return true;
         wrong++;
         if (wrong <= MOST_TOLD) System.out.println(call + " answered " + got + ", due is " + want);
@@ -73,6 +79,8 @@ public final class ModelTest {
             if (fate == 0) clause.setCharAt(draw(clause.length()), "bmow0123456789,:;x>+- "
                     .charAt(draw(22)));
             if (fate == 1) clause.setLength(1 + draw(clause.length()));
+            // two signs more than there is room for are enough
+            clause.setLength(Math.min(clause.length(), 102));
         }
         boolean ok = true;
         while (clause.length() > 0 && ok) {
@@ -176,22 +184,27 @@ public final class ModelTest {
     }
 
     private boolean run() {
-        for (int n = 0; n < CALLS; n++) {
+        while (calls <= MOST_CALLS - MOST_OF_A_TURN - MOST_OF_A_SWEEP) {
             if (!next()) return false;
         }
-        return sweep();
+        boolean ok = sweep();
+        if (calls > MOST_CALLS) throw new IllegalStateException("a run of " + calls + " calls");
+        return ok;
     }
 
+    /** What all has come to: the least DEPTHS of the tree, some BOXES, and what is told of all. */
     private boolean sweep() {
         boolean ok = true;
         for (int n = 0; n < 7; n++) ok &= due("told " + n, grid.told(n), model.told(n));
-        for (int n = 0; n < 40; n++) {
-            for (int what = 0; what < 12; what++) ok &= due("of " + n + " " + what, grid.of(n, what), model.of(n, what));
-        }
-        for (int path = 0; path < 445; path++) {
-            for (int what = 0; what < 4; what++) {
+        for (int path = 0; path <= 44; path++) {
+            boolean isPath = path < 5 || path / 10 > 0 && path % 10 > 0 && path % 10 < 5;
+            for (int what = 0; what < 4 && isPath; what++) {
                 ok &= due("square " + path + " " + what, grid.square(path, what), model.square(path, what));
             }
+        }
+        for (int n = 0; n < 8; n++) {
+            int b = draw(Math.max(8, model.count(0)));
+            for (int what = 8; what < 12; what++) ok &= due("of " + b + " " + what, grid.of(b, what), model.of(b, what));
         }
         return ok;
     }

@@ -4,6 +4,7 @@ public final class SentenceTest {
         Sentences.readDocument();
         SentencesOfPlane.all();
         SentencesOfTerms.all();
+        SentencesOfAnswers.all();
         SentencesOfBoxes.all();
         SentencesOfSquares.all();
         SentencesOfRows.all();

@@ -5,6 +5,7 @@ import java.lang.reflect.Proxy;
 import java.nio.file.Files;
 import java.nio.file.Path;
 import java.util.ArrayList;
+import java.util.Arrays;
 import java.util.LinkedHashMap;
 import java.util.List;
 import java.util.Map;
@@ -14,6 +15,7 @@ import java.util.function.Supplier;
  * What the tests of single sentences share. Each test quotes its sentence, or the part of it that names a boundary;
  * a quote that the document doesn't hold is wrong, and so is a word of the document that no test quotes.
  * Each test is told to LooseGrid, and to PlainGrid, so that the model of ModelTest is held to the same answers.
+ * Those who tell the tests extend it, so that these can be told without its name.
  */
 class Sentences {
     /** A test: calls on a new object, each with the answer that is due. */
@@ -67,7 +69,7 @@ class Sentences {
         int at = text == null ? -1 : text.indexOf(quote);
         if (at < 0) tellWrong("the document doesn't say so");
         for (; at >= 0; at = text.indexOf(quote, at + 1)) {
-            java.util.Arrays.fill(QUOTED.get(heading), at, at + quote.length(), true);
+            Arrays.fill(QUOTED.get(heading), at, at + quote.length(), true);
         }
     }
 

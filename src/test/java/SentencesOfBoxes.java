@@ -159,6 +159,12 @@ final class SentencesOfBoxes extends Sentences {
             scene(g);
             due("both", g.move(0, 120, 120), 2 * 110 * 110);
         });
+        test("STATE: not all of it would be on THE PLANE.", "of unlike WIDTH and HEIGHT", g -> {
+            place(g, 0, 0, 0, 0, 20, 3);
+            due("x beyond", g.move(0, 109, 0), -3);
+            due("y beyond", g.move(0, 0, 126), -3);
+            due("up to both rims", g.move(0, 108, 125), 108 * 108 + 125 * 125);
+        });
     }
 
     private static void drop() {
@@ -251,6 +257,13 @@ final class SentencesOfBoxes extends Sentences {
             due("signs", g.count(5), 0);
             due("came", g.count(0), 0);
             due("the next is read from its own first sign", boxes(g, "b0,0,0:1x1"), 1);
+        });
+        test(read, "those of this text alone, not of the one ahead", g -> {
+            due("3", boxes(g, "b0,0,0:1x1;b0,0,0:1x1;b0,0,0:1x1"), 3);
+            due("1", boxes(g, "b0,0,0:1x1"), 1);
+            due("a FAULT in the third", boxes(g, "b0,0,0:1x1;b0,0,0:1x1;b"), -33);
+            due("1 again", boxes(g, "m0,0,0:1x1"), 1);
+            due("came", g.count(0), 5);
         });
         test(read, "empty if all are refused", g -> {
             due("off THE PLANE", boxes(g, "b0,127,0:2x1;b0,0,127:1x2"), 0);

@@ -1,8 +1,5 @@
 /** The sentences under "What it is", "The public face" and the first part of "Terms": the plane, squares, steps, the text. */
 final class SentencesOfPlane extends Sentences {
-    private SentencesOfPlane() {
-    }
-
     static void all() {
         face();
         boxes();
@@ -202,6 +199,7 @@ final class SentencesOfPlane extends Sentences {
             due("DEPTH 4", g.square(2222, 2), 1);
             due("DEPTH 5", g.square(22222, 2), 0);
             due("all in it", g.square(22222, 0), 40);
+            due("none in THE PLANE", g.square(0, 3), -5);
             due("DEPTH 6", g.square(222222, 0), -1);
             dueOf(g, 39, 8, 22222, 5);
         });
@@ -232,6 +230,19 @@ final class SentencesOfPlane extends Sentences {
             dueOf(g, 2, 8, 0, 0);
             due("in 241", g.square(241, 3), 0);
             due("in 142", g.square(142, 3), -1);
+        });
+        test("PATH of a SQUARE: from THE PLANE on, QUARTER by QUARTER, as digits, each 1 more (the first the highest; "
+                + "THE PLANE: 0).", "all 16 of DEPTH 2", g -> {
+            g.room(2);
+            int[] paths = {11, 12, 21, 22, 13, 14, 23, 24, 31, 32, 41, 42, 33, 34, 43, 44};
+            for (int n = 0; n < 16; n++) dots(g, 2, 32 * (n % 4) + n, 32 * (n / 4) + 31 - n);
+            for (int n = 0; n < 16; n++) {
+                dueOf(g, 2 * n, 8, paths[n], 2);
+                due("in " + paths[n], g.square(paths[n], 0), 2);
+                due("whole in " + paths[n], g.square(paths[n], 1), 2);
+                due("SPLIT " + paths[n], g.square(paths[n], 2), 0);
+                due("the first in " + paths[n], g.square(paths[n], 3), 2 * n);
+            }
         });
         test("CELLS: THE PLANE in 8 by 8 parts, each 16 wide;", "the first and the last place of each", g -> {
             g.box(0, 0, 0, 0, 1, 1);
@@ -452,6 +463,8 @@ final class SentencesOfPlane extends Sentences {
             text("m0,0,0:1x1>+11", -23);
             text("m0,0,0:1x1>+10-1", -23);
             text("m0,0,0:1x1>+1-10", -25);
+            text("m0,0,0:1x1>+05-1", -23);
+            text("m0,0,0:1x1>+1-05", -25);
             text("m0,0,0:1x1>+-1", -22);
             text("m0,0,0:1x1>+1;m0,0,0:1x1", -23);
             text("m0,0,0:1x1+1-1", -20);

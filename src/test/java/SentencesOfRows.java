@@ -180,6 +180,14 @@ final class SentencesOfRows extends Sentences {
             due("SQUARES of those GONE", g.ends(1), 1);
             due("there", g.count(1), 4);
         });
+        test("ENDS: what 0 PAIRS, 1 SQUARES.", "SQUARES by ROOM", g -> {
+            place(g, 0, 0, 0, 0, 1, 1, 0, 0, 127, 0, 1, 1, 0, 0, 0, 127, 1, 1, 0, 0, 127, 127, 1, 1);
+            int[] due = {5, 5, 5, 1, 1, 1, 1, 1, 1};
+            for (int room = 1; room <= 9; room++) {
+                g.room(room);
+                due("ROOM " + room, g.ends(1), due[room - 1]);
+            }
+        });
         test("ENDS: what 0 PAIRS, 1 SQUARES.", "where TIME is over, too", g -> {
             for (int n = 0; n < 249; n++) g.pass(40);
             g.pass(39);
@@ -211,6 +219,17 @@ final class SentencesOfRows extends Sentences {
             g.drop(1);
             due("PAIRS at last", g.ends(0), 0);
             due("rows", g.count(3), 3);
+        });
+        test(gone, "nothing, and the rows behind it go on", g -> {
+            place(g, 0, 0, 0, 0, 1, 1, 1, 0, 0, 0, 1, 1, 0, 1, 5, 0, 1, 1);
+            g.speed(1, 5, 0);
+            for (int what = 1; what <= 3; what++) g.plan(what, 0);
+            g.plan(0, 0);
+            due("PAIRS", g.ends(0), 1);
+            g.drop(0);
+            due("PAIRS then", g.ends(0), 1);
+            g.plan(1, 2);
+            due("PAIRS at last", g.ends(0), 0);
         });
         test(gone, "by 2 one of KIND 0 stays", g -> {
             place(g, 0, 0, 5, 5, 1, 1, 0, 1, 5, 5, 1, 1);

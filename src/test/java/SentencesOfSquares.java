@@ -178,6 +178,14 @@ final class SentencesOfSquares extends Sentences {
             }
         }
         keeps(nearest, "as great a number as can be", g -> g.nearest(0, 0, 0, MOST), -5);
+        test(nearest, "of each corner", g -> {
+            place(g, 0, 0, 0, 0, 1, 1, 0, 0, 127, 0, 1, 1, 0, 0, 0, 127, 1, 1, 0, 0, 127, 127, 1, 1);
+            for (int n = 0; n < 4; n++) {
+                int x = 127 * (n % 2), y = 127 * (n / 2);
+                due("the first of " + x + ", " + y, g.nearest(x, y, 0, 0), n);
+                due("the last of " + x + ", " + y, g.nearest(x, y, 0, 3), 3 - n);
+            }
+        });
         test(nearest, "of none", g -> {
             for (int test = 0; test < 5; test++) due("TEST " + test, g.nearest(127, 127, test, 0), -5);
             g.box(0, 0, 0, 0, 1, 15);

@@ -98,6 +98,30 @@ final class SentencesOfTapes extends Sentences {
             due("came", g.count(0), 0);
             due("box", g.box(0, 0, 0, 0, 1, 1), 0);
         });
+        test(undo, "those that came behind it are no more", g -> {
+            g.image();
+            place(g, 1, 0, 5, 5, 4, 4, 1, 1, 5, 5, 4, 4);
+            g.undo();
+            due("x of 0", g.of(0, 2), -1);
+            due("there", g.count(1), 0);
+            due("PAIRS", g.told(3), 0);
+            due("CELLS", g.told(4), 0);
+            due("in THE PLANE", g.square(0, 0), 0);
+            due("whole in THE PLANE", g.square(0, 1), 0);
+            due("the least number in it", g.square(0, 3), -5);
+            due("cell", g.cell(0, 0, 1), -5);
+            due("nearest", g.nearest(5, 5, 0, 0), -5);
+            due("window", g.window(0, 0, 128, 128), 0);
+            due("pair", g.pair(0), -5);
+            due("mean", g.mean(0), NO);
+            due("judge", g.judge(0, 0), -5);
+            due("on", g.on(1, 100), -1);
+            due("PAIRS at the end", g.ends(0), 0);
+            due("taken", g.taken(0, 0), -11);
+            due("image", g.image(), 0);
+            due("box", g.box(0, 0, 0, 0, 1, 1), 0);
+            due("PAIRS then", g.told(3), 0);
+        });
         test(undo, "40; those GONE aren't counted", g -> {
             dots(g, 40, 0, 0);
             g.drop(7);
